@@ -22,6 +22,12 @@ public final class LoadedForTheLane {
     private static final int MOST_FIGURE = 20;
     private static final int MOST_WAGONS = 4;
     private static final int MOST_TIME = 999;
+    private static final int MOST_SHIFT_TOLD = 999;
+    private static final int MOST_TOLD = 99;
+    private static final int MOST_LOTS = 30;
+    // What a ROW tells, where a load holds.
+    private static final int TOLD_TO_HOLD = 99;
+    private static final int MOST_TENTHS = 9;
     private static final int MOST_THUNDER_MINUTES = 12;
 
     private static final int ROPES = 0;
@@ -390,7 +396,7 @@ public final class LoadedForTheLane {
         if (t < 0) {
             return refuseLong(BELOW);
         }
-        if (t > 9) {
+        if (t > MOST_TENTHS) {
             return refuseLong(ROOM);
         }
         if (part < 0 || part > 1) {
@@ -453,7 +459,7 @@ public final class LoadedForTheLane {
         if (shift < 0) {
             return refuse(BELOW);
         }
-        if (shift > MOST_TIME) {
+        if (shift > MOST_SHIFT_TOLD) {
             return refuse(ROOM);
         }
         if (what < 0 || what > 1) {
@@ -469,7 +475,7 @@ public final class LoadedForTheLane {
         if (v < 0) {
             return refuse(BELOW);
         }
-        if (v > 99 || told.size >= MOST_IN_ROW) {
+        if (v > MOST_TOLD || told.size >= MOST_IN_ROW) {
             return refuse(ROOM);
         }
         told.add(v);
@@ -495,7 +501,7 @@ public final class LoadedForTheLane {
     /** The layer at which the trial slips, as a ROW tells it: 99 if it holds. */
     private int slipAsTold(int way) {
         int piece = trial.pieceOfSlip(way);
-        return piece < 0 ? 99 : trial.layerOfSlip(way, piece);
+        return piece < 0 ? TOLD_TO_HOLD : trial.layerOfSlip(way, piece);
     }
 
     public int lots(int way, int n, int z) {
@@ -505,7 +511,7 @@ public final class LoadedForTheLane {
         if (n < 1) {
             return refuse(BELOW);
         }
-        if (n > 30) {
+        if (n > MOST_LOTS) {
             return refuse(ROOM);
         }
         trial.become(wagon);
