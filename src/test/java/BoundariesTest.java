@@ -1,0 +1,14 @@
+import java.io.IOException;
+
+/** Each sentence of the document that names a boundary, promise by promise. */
+public final class BoundariesTest {
+    public static void main(String[] args) throws IOException {
+        Sentences of = new Sentences();
+        new LetterSentences(of).all();
+        new WagonSentences(of).all();
+        new HoldingSentences(of).all();
+        new TimeSentences(of).all();
+        new ToldSentences(of).all();
+        of.end();
+    }
+}
