@@ -187,6 +187,18 @@ final class HoldingSentences {
             due.is("one of two", due.loaded("yl010+0;yl011+0;w0g061;").high(0), 1);
         });
         of.terms(12, high, "without PIECES all", due -> due.is("high(1)", hurriedOnes(due).high(1), 11));
+        of.promise(12, "HIGH.", "as the wagon is now: behind off(), out(), set()", due -> {
+            LoadedForTheLane x = due.layers(3, "yh050+0;");
+            due.is("load", Sentences.load(x, "w0g061;w1b171;"), 2);
+            due.is("three of 3", x.high(0), 3);
+            x.off();
+            due.is("two of 2", x.high(0), 2);
+            x.out(1, 1);
+            due.is("one of 2", x.high(0), 1);
+            due.is("none of 2", x.high(1), 0);
+            x.set(0, 1);
+            due.is("one of 2 with a ROPE", x.high(1), 1);
+        });
         of.promise(12, "HIGH.", "the wagon stays", due -> {
             LoadedForTheLane x = due.loaded("yl010+0;yb205-3;w0g061;r1;");
             String was = Sentences.seen(x);
@@ -250,6 +262,23 @@ final class HoldingSentences {
             due.is("69 of 65", x.more(0), 0);
             due.is("55 of 65", x.more(1), 1);
         });
+        of.promise(13, full, "as the wagon is now: behind off(), out(), set()", due -> {
+            LoadedForTheLane x = due.layers(4, LAYER);
+            due.is("load", Sentences.load(x, "w0r001;w1g061;"), 2);
+            due.is("five", x.more(0), 0);
+            x.off();
+            due.is("four", x.more(0), 1);
+            due.is("OUT 0", x.more(1), 1);
+            x.out(1, 1);
+            due.is("OUT 1", x.more(1), 0);
+            // 100 * 7 by 50 is 14 of 0.
+            LoadedForTheLane y = due.loaded("yh040+0;yl060+0;w0b071;");
+            due.is("22 of 0", y.more(0), 0);
+            y.set(0, 2);
+            due.is("22 of 0 and two ROPES", y.more(0), 1);
+            y.set(0, 1);
+            due.is("22 of 0 and one", y.more(0), 0);
+        });
         of.promise(13, "-1; -3 there are no LAYERS.", "-3: no LAYERS at first, none any more", due -> {
             LoadedForTheLane x = new LoadedForTheLane();
             due.is("none", x.more(0), -3);
@@ -294,6 +323,23 @@ final class HoldingSentences {
             due.is("farOut(1, 0)", x.farOut(1, 0), 9);
             due.same("all", Sentences.seen(x), was);
             due.refusals(x, 0, 0, 0, 0, 0);
+        });
+        of.promise(14, "FAR OUT; -9.", "as the wagon is now: behind off(), out(), set()", due -> {
+            LoadedForTheLane x = due.loaded("yl050+0;yl010+5;w0b201;");
+            due.is("60 * 21 by 50 is 25, 60 * 22 by 50 is 26", x.farOut(0, 0), 1);
+            x.off();
+            due.is("50 * 25 by 50", x.farOut(0, 0), 5);
+            x.out(0, 9);
+            due.is("wherever it is now", x.farOut(0, 0), 5);
+            x.set(0, 1);
+            due.is("with a ROPE", x.farOut(0, 0), 9);
+            LoadedForTheLane y = due.loaded(LAYER + LAYER + "w0g061;");
+            due.is("OUT 0", y.farOut(0, 0), 0);
+            y.out(1, 1);
+            due.is("the other is out", y.farOut(0, 0), -9);
+            due.is("the other itself", y.farOut(0, 1), 0);
+            y.out(1, 0);
+            due.is("the other is in again", y.farOut(0, 0), 0);
         });
         wayIsThere(14, "-1 either.", -1, LAYER, (x, way) -> x.farOut(way, 0));
         of.promise(14, "-1 either.", "-1: the first LAYER that is not there on each side", due -> {
@@ -344,6 +390,17 @@ final class HoldingSentences {
             due.is("load", Sentences.load(x, "w0s101;"), 1);
             due.is("leaning(0)", x.leaning(0), 2);
         });
+        of.promise(15, "LEANING.", "as the wagon is now: behind off(), on()", due -> {
+            LoadedForTheLane x = due.loaded("yl200+2;w0s101;");
+            x.image();
+            due.is("against 2", x.leaning(0), -2);
+            due.is("load", Sentences.load(x, "u;yl200-3;"), 2);
+            due.is("against -3", x.leaning(0), 3);
+            x.on();
+            due.is("against 2 again", x.leaning(0), -2);
+            x.off();
+            due.is("against nothing", x.leaning(0), -5);
+        });
         of.promise(15, "LEANING.", "the wagon stays", due -> {
             LoadedForTheLane x = due.loaded("yl200+5;yb100-5;w0s011;r3;");
             String was = Sentences.seen(x);
@@ -379,6 +436,19 @@ final class HoldingSentences {
                 due.is("count(7)", x.count(7), ropes);
                 due.refusals(x, 0, 0, 0, 0, 0);
             }
+        });
+        of.promise(16, "ENOUGH; -9.", "as the wagon is now: behind off(), out()", due -> {
+            // SHIFTS 150 * 10 by 50, 40 * 10 by 50, 40 * 19 by 50 of 0.
+            LoadedForTheLane x = due.loaded("yh040+0;yl110+0;w0b101;");
+            due.is("30", x.enough(0), 2);
+            x.off();
+            due.is("8", x.enough(0), 1);
+            x.out(0, 9);
+            due.is("15", x.enough(0), 1);
+            due.is("load", Sentences.load(x, "yl110+0;"), 1);
+            due.is("57", x.enough(0), 4);
+            x.out(0, 0);
+            due.is("30 again", x.enough(0), 2);
         });
         wayIsThere(16, "-1.", -1, LAYER + "w0g051;", (x, way) -> x.enough(way));
     }
@@ -490,6 +560,14 @@ final class HoldingSentences {
             due.is("lacks 32 less 30", x.whose(0, 0), 3);
             x.set(0, 3);
             due.is("none lacks", x.whose(0, 0), -9);
+        });
+        of.terms(25, whose, "the least lack, not the least SHIFT, nor the greatest BINDING", due -> {
+            // A BEND: 100 * 22 by 50 is 44 of 40; 50 * 20 by 50 is 20 of 2.
+            due.is("4 of the first, 18 of the second", due.loaded("yb052+0;yh050+0;w0b201;").whose(0, 0), 0);
+            // 200 * 20 by 60 is 66 of 50; 100 * 20 by 60 is 33 of 15.
+            due.is("16 of the first, 18 of the second", due.loaded("yl100+0;yh100+0;w0d201;").whose(0, 0), 0);
+            // 210 * 20 by 60 is 70 of 50; 110 * 20 by 60 is 36 of 17.
+            due.is("20 of the first, 19 of the second", due.loaded("yl100+0;yh110+0;w0d201;").whose(0, 0), 1);
         });
         of.terms(25, whose, "of several the least", due -> {
             // A DIP's 6, 4, 2, times 1, 2, 3 by 3 are 2, 2, 2 of 0.

@@ -70,6 +70,10 @@ final class TimeSentences {
             due.is("SKILL 4: 3 MINUTES by 3, 4", due.loaded("yl095+0;w0b201;k41;").quick(0), 3);
             due.is("SKILL 1", due.loaded("yl095+0;w0b201;k11;").quick(0), 1);
         });
+        of.terms(20, badly, "PITCH below SKILL: no better", due -> {
+            // 90 * 26 by 50 is 46 of 45.
+            due.is("SKILL 9", due.loaded("yl096+0;w0b201;k91;").quick(0), -9);
+        });
         of.terms(20, badly, "8 SHEAVES, one above: 8 by 9 is cut to none; two above: one", due -> {
             // 80 * 25 by 50 is 40 of 40.
             due.is("SKILL 7: 1 MINUTE by 8", due.loaded("yl085+0;w0b201;k71;").quick(0), 8);
@@ -85,6 +89,11 @@ final class TimeSentences {
             // 9 SHEAVES, SKILL 8, PITCH 9: 45 less 4. 90 * 23 by 50 is 41, 90 * 24 by 50 is 43.
             due.is("41 of 41", due.loaded("yl093+0;w0b201;k81;").quick(0), 9);
             due.is("43 of 41", due.loaded("yl094+0;w0b201;k81;").quick(0), 5);
+        });
+        of.terms(20, less, "4 less for each of ten, each PITCH by itself", due -> {
+            // 18 SHEAVES, SKILL 4, PITCH 9: 10 lie badly: 90 less 40. 180 * 14 by 50 is 50, 180 * 15 by 50 is 54.
+            due.is("50 of 50: 2 MINUTES by 9", due.loaded("yl180+0;w0b141;k41;").quick(0), 9);
+            due.is("54 of 50: 3 MINUTES by 6 .. 8", due.loaded("yl180+0;w0b151;k41;").quick(0), 6);
         });
         of.terms(20, less, "0 at least", due -> {
             // 5 SHEAVES, SKILL 1, PITCH 5: 2 lie badly: 2 less 8.
@@ -128,6 +137,18 @@ final class TimeSentences {
             due.is("quick(1)", x.quick(1), 1);
             due.same("all", Sentences.seen(x), was);
             due.refusals(x, 0, 0, 0, 0, 0);
+        });
+        of.promise(20, "QUICK; -9.", "as the wagon is now: behind off(), out(), set()", due -> {
+            LoadedForTheLane x = due.loaded("yl095+0;yl010+0;w0b201;");
+            due.is("it slips", x.quick(0), -9);
+            x.off();
+            due.is("45 of 45, SKILL 4", x.quick(0), 3);
+            x.set(1, 9);
+            due.is("45 of 45, SKILL 9", x.quick(0), 9);
+            x.out(0, 6);
+            due.is("46 of 45", x.quick(0), -9);
+            x.set(0, 1);
+            due.is("46 of 60", x.quick(0), 9);
         });
         of.promise(20, "-1.", "the first WAY that is not there on each side", due -> {
             LoadedForTheLane x = due.loaded(LAYER + "w0g051;");

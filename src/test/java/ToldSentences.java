@@ -20,6 +20,7 @@ final class ToldSentences {
         judge();
         judgedRow();
         lots();
+        lotsNow();
         draws();
         lotsRefused();
         image();
@@ -86,6 +87,10 @@ final class ToldSentences {
         of.terms(26, twos, "none at all", due -> {
             bounds(due, told(), 0, 0, 20);
             bounds(due, told(), 999, 0, 20);
+        });
+        of.terms(26, twos, "1 of SHEAVES is none of the second ones", due -> {
+            bounds(due, told(10, 1, 1, 0), 5, 1, 4);
+            bounds(due, told(1, 0, 1, 0), 5, 0, 4);
         });
         of.terms(26, twos, "a full ROW of six twos; each two counts", due -> {
             bounds(due, told(10, 1, 11, 1, 12, 1, 4, 0, 3, 0, 2, 0), 60, 6, 14);
@@ -260,6 +265,19 @@ final class ToldSentences {
             due.is("11 is not there", judged(x, 0, 10, 11), 1);
             due.is("98 is not 99", judged(x, 1, 99, 98), 1);
         });
+        of.terms(28, judged, "the load as it is now: behind off(), out(), on()", due -> {
+            LoadedForTheLane x = due.loaded(LAYER + LAYER + "w0g061;");
+            x.image();
+            due.is("holds", judged(x, 0, 99), -9);
+            x.out(1, 1);
+            due.is("slips at 1", judged(x, 0, 1), -9);
+            x.off();
+            due.is("holds", judged(x, 0, 99), -9);
+            x.out(0, 1);
+            due.is("slips at 0", judged(x, 0, 0), -9);
+            x.on();
+            due.is("holds", judged(x, 0, 99), -9);
+        });
         of.terms(28, judged, "an empty wagon holds", due -> {
             due.is("99", judged(new LoadedForTheLane(), 0, 99, 99), -9);
             due.is("0", judged(new LoadedForTheLane(), 0, 0), 0);
@@ -327,6 +345,25 @@ final class ToldSentences {
                 due.is("OUT up to 3, n of " + n, x.lots(0, n, 0), upTo3[n - 1]);
                 due.is("OUT up to 6, n of " + n, x.lots(1, n, 0), upTo6[n - 1]);
             }
+        });
+    }
+
+    private void lotsNow() {
+        of.promise(29, "LOTS.", "as the wagon is now, but OUT, LEAN: behind off(), out(), set()", due -> {
+            // OUTS 3, 6 of two LAYERS by seed 0, 3 of one.
+            LoadedForTheLane x = due.loaded(LAYER + LAYER + "w0g121;w1b201;");
+            due.is("two", x.lots(0, 1, 0), 0);
+            x.off();
+            due.is("one", x.lots(0, 1, 0), 1);
+            x.out(0, 9);
+            due.is("wherever it is now", x.lots(0, 1, 0), 1);
+            // 40 * 23 by 50 is 18 of 0.
+            LoadedForTheLane y = due.loaded("yh040+0;w0b201;");
+            due.is("no ROPES", y.lots(0, 1, 0), 0);
+            y.set(0, 1);
+            due.is("one", y.lots(0, 1, 0), 0);
+            y.set(0, 2);
+            due.is("two", y.lots(0, 1, 0), 1);
         });
     }
 

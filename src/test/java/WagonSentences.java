@@ -487,6 +487,13 @@ final class WagonSentences {
             due.is("10 * 20 by 60 is 3, times 11 by 3", x.shift(0, 0, 10), 11);
             due.is("0 times 11 by 3", x.shift(1, 0, 10), 0);
         });
+        of.terms(9, "j JERK under DIP: a DIP's times (k and 1) by 3, cut.", "the greatest LOADS", due -> {
+            LoadedForTheLane x = due.layers(11, "yw209+5;");
+            due.is("load", Sentences.load(x, "w0j201;"), 1);
+            due.is("3080 * 20 by 60 is 1026, times 1 by 3", x.shift(0, 0, 0), 342);
+            due.is("1680 * 20 by 60 is 560, times 6 by 3", x.shift(0, 0, 5), 1120);
+            due.is("280 * 20 by 60 is 93, times 11 by 3", x.shift(0, 0, 10), 341);
+        });
         of.terms(9, "b BEND under SLOPE: LOAD times (f and OUT) by 50, cut.", "OUT of 0 and 9, f of 0 and 20, cut",
             due -> {
                 due.is("0 and 0", shiftOf(due, "yl200+5;", "w0b001;"), 0);
