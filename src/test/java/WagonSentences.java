@@ -204,6 +204,21 @@ final class WagonSentences {
             due.is("HEIGHT", x.count(3), 0);
             due.is("WIDTH", x.count(4), 96);
         });
+        of.terms(32, highAndWide, "emptied: nothing is left of the LAYER that came off", due -> {
+            LoadedForTheLane x = due.loaded("yl209+5;w0g001;w0b201;");
+            due.is("WIDTH", x.count(4), 114);
+            due.is("off()", x.off(), 0);
+            due.is("HEIGHT", x.count(3), 0);
+            due.is("WIDTH", x.count(4), 96);
+            due.is("all WEIGHT", x.count(5), 0);
+            due.is("all SHEAVES", x.count(6), 0);
+            due.is("slips(0, 0)", x.slips(0, 0), -9);
+            due.is("fell(0, 0)", x.fell(0, 0), 0);
+            due.is("margin(0)", x.margin(0), 9999);
+            due.is("load", Sentences.load(x, "yl010+0;"), 1);
+            due.is("LOAD of the next one", x.layer(0, 7), 10);
+            due.is("WIDTH of the next one", x.count(4), 96);
+        });
         of.terms(32, highAndWide, "full: the lowest, the highest", due -> {
             due.is("WET ones", due.layers(11, "yw010+0;").count(3), 88);
             due.is("LOOSE ones", due.layers(11, "yo010+0;").count(3), 121);
