@@ -29,6 +29,9 @@ public final class LoadedForTheLane {
     private static final int TOLD_TO_HOLD = 99;
     private static final int MOST_TENTHS = 9;
     private static final int MOST_THUNDER_MINUTES = 12;
+    // What the first of several is better than, whichever it is.
+    private static final int LEAST_NUMBER = -2147483648;
+    private static final int GREATEST_NUMBER = 2147483647;
 
     private static final int ROPES = 0;
     private static final int SKILL = 1;
@@ -281,7 +284,7 @@ public final class LoadedForTheLane {
             return refuseWide(NOBODY);
         }
         int best = -MOST_LEAN;
-        int bestMargin = Integer.MIN_VALUE;
+        int bestMargin = LEAST_NUMBER;
         for (int added = -MOST_LEAN; added <= MOST_LEAN; added++) {
             trial.become(wagon);
             trial.leanMore(added);
@@ -345,7 +348,7 @@ public final class LoadedForTheLane {
             return refuse(NOBODY);
         }
         int best = NONE;
-        int fewest = Integer.MAX_VALUE;
+        int fewest = GREATEST_NUMBER;
         for (int pitch = LEAST_SETTING[PITCH]; pitch <= MOST_SETTING[PITCH]; pitch++) {
             trial.become(wagon);
             trial.layBadly(Math.max(0, pitch - wagon.settings[SKILL]));
@@ -444,7 +447,7 @@ public final class LoadedForTheLane {
             return refuse(NOBODY);
         }
         int least = NONE;
-        int leastLack = Integer.MAX_VALUE;
+        int leastLack = GREATEST_NUMBER;
         for (int layer = 0; layer < wagon.layers; layer++) {
             int lack = wagon.shiftOf(way, piece, layer) - wagon.strengthOf(layer);
             if (wagon.slipsAt(way, piece, layer) && lack < leastLack) {
@@ -870,6 +873,7 @@ public final class LoadedForTheLane {
         // "One layer more" is tried on a full wagon, too.
         private static final int ROOM_FOR_LAYERS = MOST_LAYERS + 1;
         private static final int MARGIN_OF_NONE = 9999;
+        private static final int ALL_BUT_THE_SIGN = 2147483647;
 
         private final int[] kinds = new int[ROOM_FOR_LAYERS];
         private final int[] sheaves = new int[ROOM_FOR_LAYERS];
@@ -982,7 +986,7 @@ public final class LoadedForTheLane {
         }
 
         private static int draw(int seed, int below) {
-            return below < 1 ? 0 : (seed & Integer.MAX_VALUE) / 256 % below;
+            return below < 1 ? 0 : (seed & ALL_BUT_THE_SIGN) / 256 % below;
         }
 
         // ---- how high, how wide, how heavy

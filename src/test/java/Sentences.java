@@ -55,9 +55,9 @@ final class Sentences {
         test(number, "Terms", sentence, edge, body);
     }
 
-    /** A test of what is said of all calls. */
-    void ofAll(String sentence, String edge, Body body) {
-        test(0, "What it is", sentence, edge, body);
+    /** A test of a sentence of another part of the document, named by that part's heading. */
+    void part(String section, String sentence, String edge, Body body) {
+        test(0, section, sentence, edge, body);
     }
 
     private void test(int number, String section, String sentence, String edge, Body body) {
@@ -97,11 +97,7 @@ final class Sentences {
 
     /** Fails, if a test has failed or a sentence has none. */
     void end() {
-        sections.forEach((section, text) -> {
-            if (section.startsWith("Promise") || section.equals("Terms")) {
-                askForAll(section, text);
-            }
-        });
+        sections.forEach(this::askForAll);
         for (int number = 1; number < promised.length; number++) {
             if (!promised[number]) {
                 wrong++;
@@ -119,7 +115,7 @@ final class Sentences {
         for (int i = 0; i < text.length(); i++) {
             left.append(covered.get(section)[i] ? '|' : text.charAt(i));
         }
-        for (String part : left.toString().replace("==== II.", "").split("\\|+")) {
+        for (String part : left.toString().replaceAll("==== I+\\.", "").split("\\|+")) {
             if (!part.isBlank()) {
                 wrong++;
                 System.out.println(section + ": no test is named by \"" + part.trim() + "\"");

@@ -29,7 +29,6 @@ final class ToldSentences {
         count();
         refusals();
         refusalsTold();
-        use();
     }
 
     private static LoadedForTheLane told(int... numbers) {
@@ -721,28 +720,6 @@ final class ToldSentences {
             due.is("LEAN", x.layer(0, 3), -5);
             due.is("LEANING", due.loaded("yl200+0;w0s121;").leaning(0), -2);
             due.refusals(x, 0, 0, 0, 0, 0);
-        });
-    }
-
-    private void use() {
-        String use = "An object is used for at most 512 calls after it has been made;";
-        of.ofAll(use, "the 512th call is answered as due", due -> {
-            LoadedForTheLane x = new LoadedForTheLane();
-            for (int call = 1; call <= 510; call++) {
-                due.is("call " + call, x.off(), -3);
-            }
-            due.is("call 511", x.count(13), 510);
-            due.is("call 512", x.image(), 0);
-        });
-        of.ofAll(use, "512 calls that change it", due -> {
-            LoadedForTheLane x = new LoadedForTheLane();
-            for (int call = 1; call <= 509; call += 5) {
-                due.is("letter", x.letter('r'), 1);
-                due.is("letter", x.letter('0' + call % 6), 2);
-                due.is("letter", x.letter(';'), 3);
-                due.is("load", x.load(), 1);
-                due.is("count", x.count(7), call % 6);
-            }
         });
     }
 }
