@@ -390,6 +390,13 @@ final class HoldingSentences {
             due.is("load", Sentences.load(x, "w0s101;"), 1);
             due.is("leaning(0)", x.leaning(0), 2);
         });
+        of.terms(15, leaning, "the greatest MARGIN, though each is far below 0", due -> {
+            // 2840 times 15 .. 10 by 40 of 0; the LAYERS above need less and bind more.
+            LoadedForTheLane x = due.layers(1, "yh040-5;");
+            due.is("load", Sentences.load(x, Sentences.times(10, "yw200+0;") + "w0s001;"), 11);
+            due.is("margin(0)", x.margin(0), -1065);
+            due.is("leaning(0)", x.leaning(0), 5);
+        });
         of.promise(15, "LEANING.", "as the wagon is now: behind off(), on()", due -> {
             LoadedForTheLane x = due.loaded("yl200+2;w0s101;");
             x.image();
@@ -568,6 +575,13 @@ final class HoldingSentences {
             due.is("16 of the first, 18 of the second", due.loaded("yl100+0;yh100+0;w0d201;").whose(0, 0), 0);
             // 210 * 20 by 60 is 70 of 50; 110 * 20 by 60 is 36 of 17.
             due.is("20 of the first, 19 of the second", due.loaded("yl100+0;yh110+0;w0d201;").whose(0, 0), 1);
+        });
+        of.terms(25, whose, "the least lack, though each is great", due -> {
+            // A SLOPE moves the two leaning LAYERS alone: 2600 and 2560 times 5 by 40 of 0.
+            LoadedForTheLane x = due.layers(2, "yh040+5;");
+            due.is("load", Sentences.load(x, Sentences.times(9, "yw200+0;") + "w0s101;"), 10);
+            due.is("fell(0, 0)", x.fell(0, 0), 3);
+            due.is("325 of the first, 320 of the second", x.whose(0, 0), 1);
         });
         of.terms(25, whose, "of several the least", due -> {
             // A DIP's 6, 4, 2, times 1, 2, 3 by 3 are 2, 2, 2 of 0.

@@ -14,10 +14,23 @@ import java.util.TreeSet;
 import java.util.regex.Matcher;
 import java.util.regex.Pattern;
 
-/** Looks at the program's text and face by those rules of LANGUAGE.md that can be seen without much. */
+/**
+ * Looks at the program's text and face by those rules of LANGUAGE.md that can be seen there. AnyCallTest looks at those
+ * that show when it runs.
+ */
 public final class LanguageTest {
     private static final String[] WORDS = {"throw", "throws", "try", "catch", "finally", "synchronized", "assert",
-        "import", "package", "volatile", "transient", "native", "protected", "System\\.out", "Random", "Thread"};
+        "import", "package", "volatile", "transient", "native", "protected"};
+    /** Rule 4: the classes of the library, and what may be asked of them or of arrays. */
+    private static final Set<String> LIBRARY = Set.of("String", "StringBuilder", "Integer", "Long", "Math", "System",
+        "Arrays", "ArrayList", "List", "Iterator", "Iterable", "Comparable");
+    private static final Set<String> LIBRARY_CALLS = Set.of("length", "charAt", "isEmpty", "equals", "indexOf",
+        "toCharArray", "append", "setCharAt", "setLength", "deleteCharAt", "reverse", "toString", "add", "get", "set",
+        "remove", "size", "clear", "clone");
+    private static final Set<String> LIBRARY_FUNCTIONS = Set.of("compare", "max", "min", "abs", "bitCount", "floorDiv",
+        "floorMod", "arraycopy", "copyOf", "copyOfRange", "fill", "of");
+    private static final Pattern COUNTED = Pattern.compile(
+        "for \\(int (\\w+) = [^;]+; \\1 (?:<|<=|>|>=) [^;]+; \\1(?:\\+\\+|--| \\+= [1-9])\\) \\{");
     private static final Set<String> STATIC_TYPES = Set.of("int", "long", "boolean", "char", "String", "int[]", "long[]",
         "char[]", "byte[]");
     private static final Path DOCUMENT = Path.of("../shared/DOC.md");
@@ -36,11 +49,18 @@ public final class LanguageTest {
 
     public static void main(String[] args) throws IOException {
         String text = Files.readString(Path.of("src/main/java/LoadedForTheLane.java"));
-        String code = text.replaceAll("/\\*[\\s\\S]*?\\*/", "").replaceAll("//[^\n]*", "");
+        // Texts are told empty, so that no sign in them is taken for the program's.
+        String code = text.replaceAll("/\\*[\\s\\S]*?\\*/", "").replaceAll("//[^\n]*", "")
+            .replaceAll("\"[^\"\n]*\"", "\"\"").replaceAll("'[^'\n]+'", "' '");
         words(text, code);
         face();
         types();
+        kindsOfTypes();
         parameters();
+        library(code);
+        statics(code);
+        loops(code);
+        texts(code);
         methods(code);
         if (wrong != 0) {
             System.exit(1);
@@ -127,6 +147,123 @@ public final class LanguageTest {
         }
     }
 
+    /** Rules 2, 3, 6: each class has a name, each type is one that the language has. */
+    private static void kindsOfTypes() {
+        Class<?>[] all = LoadedForTheLane.class.getNestMembers();
+        for (Class<?> one : all) {
+            if (one.isAnonymousClass() || one.isLocalClass()) {
+                say("a class without a name, or inside a method: " + one);
+            }
+            for (Field f : one.getDeclaredFields()) {
+                type(f.getType(), all, f.toString());
+            }
+            for (Method m : one.getDeclaredMethods()) {
+                type(m.getReturnType(), all, m.toString());
+                for (Class<?> parameter : m.getParameterTypes()) {
+                    type(parameter, all, m.toString());
+                }
+                if (Set.of("equals", "hashCode", "toString", "finalize").contains(m.getName())) {
+                    say("of its own: " + m);
+                }
+            }
+        }
+    }
+
+    private static void type(Class<?> type, Class<?>[] own, String where) {
+        Class<?> of = type;
+        int dimensions = 0;
+        for (; of.isArray(); dimensions++) {
+            of = of.getComponentType();
+        }
+        boolean isOwn = Arrays.asList(own).contains(of);
+        boolean isLibrary = LIBRARY.contains(of.getSimpleName());
+        if (!(of.isPrimitive() && dimensions <= 2 || isOwn && dimensions <= 1 || isLibrary && dimensions == 0)) {
+            say("a type that the language leaves out: " + where);
+        }
+    }
+
+    /** Rule 4: what the library is asked. Rule 12: what makes objects. */
+    private static void library(String code) {
+        Set<String> own = new TreeSet<>();
+        for (Class<?> one : LoadedForTheLane.class.getNestMembers()) {
+            own.add(one.getSimpleName());
+        }
+        Matcher name = Pattern.compile("\\b[A-Z]\\w*[a-z]\\w*").matcher(code);
+        while (name.find()) {
+            if (!own.contains(name.group()) && !LIBRARY.contains(name.group())) {
+                say("a class that is none of the library's: " + name.group());
+            }
+        }
+        Set<String> methods = new TreeSet<>();
+        for (Class<?> one : LoadedForTheLane.class.getNestMembers()) {
+            Arrays.stream(one.getDeclaredMethods()).forEach(m -> methods.add(m.getName()));
+        }
+        Matcher call = Pattern.compile("(\\w+|[)\\]\"])\\.(\\w+)(\\(?)").matcher(code);
+        while (call.find()) {
+            boolean isLibrary = LIBRARY.contains(call.group(1));
+            boolean isCall = !call.group(3).isEmpty();
+            Set<String> may = isLibrary ? LIBRARY_FUNCTIONS : methods;
+            if (isLibrary && !isCall || isCall && !may.contains(call.group(2))
+                && (isLibrary || !LIBRARY_CALLS.contains(call.group(2)))) {
+                say("not the library's: " + call.group());
+            }
+        }
+        for (String line : code.split("\n")) {
+            if (line.contains("new ") && !line.matches(" +private final .*;")) {
+                say("an object made but with the object itself: " + line.trim());
+            }
+        }
+    }
+
+    /** Rule 5: no element of a static array is changed, none is handed out. */
+    private static void statics(String code) {
+        Matcher array = Pattern.compile("static final \\w+\\[\\] (\\w+) = (.*)").matcher(code);
+        while (array.find()) {
+            if (!array.group(2).matches("\\{[-\\d, ]*\\};")) {
+                say("not written out: " + array.group(1));
+            }
+            Matcher use = Pattern.compile("\\b" + array.group(1) + "\\b(.*)").matcher(code);
+            while (use.find()) {
+                if (!use.group(1).matches(" = \\{.*|\\.clone\\(\\);|\\.length.*|\\[\\w+\\](?! *([-+*/%&|^]|<<|>>)?=[^=])(?!\\+\\+|--).*")) {
+                    say("a constant array is changed or handed out: " + use.group());
+                }
+            }
+        }
+    }
+
+    /** Rule 9: each loop counts against a bound. (While and do would need another look: there are none.) */
+    private static void loops(String code) {
+        if (Pattern.compile("\\b(while|do)\\b").matcher(code).find()) {
+            say("a loop whose end isn't looked at");
+        }
+        Matcher loop = Pattern.compile("\\bfor \\(.*").matcher(code);
+        while (loop.find()) {
+            if (!COUNTED.matcher(loop.group()).matches()) {
+                say("a loop that doesn't count: " + loop.group());
+            }
+        }
+    }
+
+    /** Rules 6, 10: texts are not joined by + and not compared by ==. */
+    private static void texts(String code) {
+        Set<String> texts = new TreeSet<>();
+        Matcher name = Pattern.compile("\\bString (\\w+)\\b(?!\\()").matcher(code);
+        while (name.find()) {
+            texts.add(name.group(1));
+        }
+        for (String text : texts) {
+            if (Pattern.compile("\\b" + text + " ([-+!=]=|\\+)|([!=]=|\\+) " + text + "\\b(?!\\.)").matcher(code).find()) {
+                say("a text joined by + or compared by ==: " + text);
+            }
+        }
+        if (Pattern.compile("\"\" *(\\+|[!=]=)|(\\+|[!=]=) *\"\"").matcher(code).find()) {
+            say("a text joined by + or compared by ==");
+        }
+        if (code.indexOf('\\') >= 0) {
+            say("a sign told by a backslash");
+        }
+    }
+
     private static void parameters() {
         List<Class<?>> all = new ArrayList<>(Arrays.asList(LoadedForTheLane.class.getDeclaredClasses()));
         all.add(LoadedForTheLane.class);
@@ -191,9 +328,10 @@ public final class LanguageTest {
         }
     }
 
-    /** How deep calls go from a method on, what calls itself left out. */
+    /** How deep calls go from a method on. Rule 8 asks a guard of recursion: there is none, so it needs none. */
     private static int depth(String name, Map<String, Set<String>> calls, List<String> above) {
         if (above.contains(name)) {
+            say("recursion: " + name);
             return 0;
         }
         List<String> opened = new ArrayList<>(above);

@@ -123,6 +123,14 @@ final class TimeSentences {
             due.is("10 SHEAVES: 2 MINUTES by 5 .. 9", due.loaded("yl100+0;k91;").quick(0), 5);
             due.is("20 SHEAVES: 3 MINUTES by 7 .. 9", due.loaded("yl200+0;k91;").quick(0), 7);
         });
+        of.terms(20, quick, "a full wagon: 220 MINUTES by 1, for no other PITCH holds", due -> {
+            // 2200 * 3 by 60 is 110 of 115; with PITCH 2 two SHEAVES lie badly: of 107.
+            LoadedForTheLane x = due.layers(11, "yl200+0;");
+            due.is("load", Sentences.load(x, "w0d031;r1;k11;"), 3);
+            due.is("quick(0)", x.quick(0), 1);
+            x.set(1, 2);
+            due.is("SKILL 2", x.quick(0), 2);
+        });
         of.terms(20, quick, "a full wagon: 25 MINUTES by 9 alone", due -> {
             LoadedForTheLane x = due.layers(11, "yl200+0;");
             due.is("quick(0)", x.quick(0), 9);
